@@ -1,0 +1,75 @@
+/** Beginnings that many tests share. */
+final class Scene {
+    private Scene() {
+    }
+
+    /** The case 0 of the judge 0, with the person 0 on the side 0 and the persons 1 and 2 on the side 1. */
+    static Courtdocket opened() {
+        Courtdocket court = new Courtdocket();
+        court.open(0);
+        court.join(0, 0, 0);
+        court.join(0, 1, 1);
+        court.join(0, 2, 1);
+        return court;
+    }
+
+    /** The same with the claim 0, by the person 0 against 1, over 1000. */
+    static Courtdocket claimed() {
+        Courtdocket court = opened();
+        court.claim(0, 0, 1, 1000);
+        return court;
+    }
+
+    /** The same, served on the day 0 by the way 0: the entry 0. */
+    static Courtdocket served() {
+        Courtdocket court = claimed();
+        court.serve(0, 0);
+        return court;
+    }
+
+    /** The same with a MOTION, the entry 1. */
+    static Courtdocket moved() {
+        Courtdocket court = served();
+        court.motion(0);
+        return court;
+    }
+
+    /** The claim served and answered: the entries 0 and 1. */
+    static Courtdocket answered() {
+        Courtdocket court = served();
+        court.answer(0);
+        return court;
+    }
+
+    /** The same, WON with an amount: the entry 2. */
+    static Courtdocket won(int amount) {
+        Courtdocket court = answered();
+        court.judge(0, amount);
+        return court;
+    }
+
+    /** The same, and APPEALED: the entry 3. */
+    static Courtdocket appealed(int amount) {
+        Courtdocket court = won(amount);
+        court.appeal(0);
+        return court;
+    }
+
+    /** Fills the docket with STAYs and LIFTs of the case 0; those that are made are the last. */
+    static void fill(Courtdocket court) {
+        boolean isOn = true;
+        while (court.entries() < 160) {
+            court.stay(0, isOn);
+            isOn = !isOn;
+        }
+    }
+
+    static void pass(Courtdocket court, int days) {
+        int left = days;
+        while (left > 0) {
+            int step = Math.min(left, 60);
+            court.pass(step);
+            left -= step;
+        }
+    }
+}
