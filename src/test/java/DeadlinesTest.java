@@ -215,6 +215,7 @@ public final class DeadlinesTest {
         CHECK.same("497 days", court.extend(0, 0, 17), 1397);
         CHECK.same("498 days, over free ones", court.extend(0, 0, 1), 1400);
         CHECK.same("500 days", court.extend(0, 0, 2), 1400);
+        due("the last day that can be", court, 0, 0, 1400);
         CHECK.same("501 days", court.extend(0, 0, 1), -1);
         due("NONE", court, 0, 0, -1);
         CHECK.state("no more", () -> court.extend(0, 0, 1));

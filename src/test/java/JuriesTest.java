@@ -84,5 +84,10 @@ public final class JuriesTest {
         CHECK.same("none is left", court.seat(0, 6), -1);
         CHECK.state("so none goes", () -> court.dismiss(0, 0));
         CHECK.same("the others sit still", court.seat(0, 5), 10);
+        Courtdocket ends = seated();
+        CHECK.same("the first seat", ends.dismiss(0, 0), 12);
+        CHECK.same("the last seat", ends.dismiss(0, 10), 13);
+        CHECK.same("12 in the first", ends.seat(0, 0), 12);
+        CHECK.same("13 in the last", ends.seat(0, 5), 13);
     }
 }

@@ -255,6 +255,8 @@ public final class OrdersTest {
     private static void appealTwice() {
         Courtdocket court = Scene.appealed(600);
         court.decide(0, 0, 0);
+        court.stay(0, true);
+        court.stay(0, false);
         court.appeal(0);
         court.decide(0, 0, 0);
         CHECK.state("a third", () -> court.appeal(0));
@@ -362,14 +364,29 @@ public final class OrdersTest {
         affirmed.decide(0, 0, 0);
         affirmed.pass(10);
         CHECK.same("since the JUDGEMENT, not the DECISION", affirmed.balance(0), 1010);
-        Courtdocket long1 = Scene.opened();
-        long1.claim(0, 0, 1, 99999);
-        long1.serve(0, 0);
-        long1.answer(0);
-        long1.judge(0, 99999);
-        Scene.pass(long1, 900);
-        CHECK.same("30 times 30 days", long1.balance(0), 99999 + 29999);
-        CHECK.same("all of it", long1.pay(0, 129998), 0);
-        state("PAID with interest", long1, 5);
+        Courtdocket aged = Scene.opened();
+        aged.claim(0, 0, 1, 99999);
+        aged.serve(0, 0);
+        aged.answer(0);
+        aged.judge(0, 99999);
+        Scene.pass(aged, 900);
+        CHECK.same("30 times 30 days", aged.balance(0), 99999 + 29999);
+        CHECK.same("all of it", aged.pay(0, 129998), 0);
+        state("PAID with interest", aged, 5);
+        Courtdocket late = Scene.answered();
+        late.pass(40);
+        late.judge(0, 1000);
+        late.vacate(0);
+        late.pass(10);
+        late.judge(0, 1000);
+        late.pass(29);
+        CHECK.same("29 days since the last JUDGEMENT", late.pay(0, 500), 500);
+        late.pass(1);
+        CHECK.same("30 days", late.balance(0), 510);
+        state("all but 10 is paid", late, 2);
+        CHECK.same("what is left", late.pay(0, 500), 10);
+        state("10 is left", late, 2);
+        CHECK.same("nothing is left", late.pay(0, 10), 0);
+        state("PAID later", late, 5);
     }
 }

@@ -224,6 +224,10 @@ public final class RepliesTest {
         CHECK.state("stay", () -> court.stay(0, true));
         CHECK.same("nothing was made", court.entries(), 160);
         CHECK.same("nothing was paid", court.balance(6), 50);
+        for (int claim = 0; claim < 9; claim++) {
+            CHECK.same("states", court.stateByDocket(claim), court.stateOf(claim));
+            CHECK.same("deadlines", court.dueByDays(0, claim), court.due(0, claim));
+        }
         CHECK.same("a defect needs no entry", court.defect(9), 7);
         CHECK.index("entry 160", () -> court.counts(160));
     }
