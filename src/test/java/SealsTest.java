@@ -100,5 +100,9 @@ public final class SealsTest {
             isSealed = !isSealed;
         }
         CHECK.same("unsealed in the end", court.maySee(0, 9, 0), true);
+        // What is answered behind the 512th call is free, but the machine must not throw.
+        for (int call = 0; call < 100; call++) {
+            court.seal(0, call % 2 == 0);
+        }
     }
 }
