@@ -1,6 +1,9 @@
+import java.util.function.IntConsumer;
+
 /** Compares answers with those that are due, and counts. */
 final class Check {
     private final String name;
+    private String about = "";
     private int right;
     private int wrong;
 
@@ -13,6 +16,11 @@ final class Check {
         this.name = name;
     }
 
+    /** Tells what the checks from now on are about. */
+    void about(String told) {
+        about = told + ": ";
+    }
+
     void same(String what, long got, long due) {
         count(got == due, what, String.valueOf(got), String.valueOf(due));
     }
@@ -22,26 +30,56 @@ final class Check {
     }
 
     /** No such case, claim, entry and so on. */
-    void index(String what, Call call) {
-        count(what, call, "IndexOutOfBoundsException");
+    void index(String what, Courtdocket court, Call call) {
+        refused(what, court, call, "IndexOutOfBoundsException");
     }
 
-    void argument(String what, Call call) {
-        count(what, call, "IllegalArgumentException");
+    void argument(String what, Courtdocket court, Call call) {
+        refused(what, court, call, "IllegalArgumentException");
     }
 
-    void state(String what, Call call) {
-        count(what, call, "IllegalStateException");
+    void state(String what, Courtdocket court, Call call) {
+        refused(what, court, call, "IllegalStateException");
     }
 
-    private void count(String what, Call call, String due) {
-        String got = "nothing thrown";
+    /** The numbers just beyond a range, and the farthest ones, are no such thing. */
+    void index(String what, Courtdocket court, int least, int most, IntConsumer call) {
+        for (int number : beyond(least, most)) {
+            index(what + " " + number, court, () -> call.accept(number));
+        }
+    }
+
+    /** The numbers just beyond a range, and the farthest ones, are out of range. */
+    void argument(String what, Courtdocket court, int least, int most, IntConsumer call) {
+        for (int number : beyond(least, most)) {
+            argument(what + " " + number, court, () -> call.accept(number));
+        }
+    }
+
+    /** A call that throws what is not due for it. */
+    void failed(Throwable thrown) {
+        count(false, "the test itself", String.valueOf(thrown), "no exception");
+    }
+
+    private static int[] beyond(int least, int most) {
+        return new int[] {least - 1, most + 1, Integer.MIN_VALUE, Integer.MAX_VALUE};
+    }
+
+    /** The exception must be the one that is due, by its own class, and nothing may have changed behind it. */
+    private void refused(String what, Courtdocket court, Call call, String due) {
+        String before = Inside.of(court);
+        String got = thrown(call);
+        count(got.equals(due), what, got, due);
+        count(Inside.of(court).equals(before), what, "and changed something", "no change");
+    }
+
+    private static String thrown(Call call) {
         try {
             call.run();
+            return "nothing thrown";
         } catch (RuntimeException e) {
-            got = e.getClass().getSimpleName();
+            return e.getClass().getSimpleName();
         }
-        count(got.equals(due), what, got, due);
     }
 
     private void count(boolean isRight, String what, String got, String due) {
@@ -49,7 +87,7 @@ final class Check {
             right++;
         } else {
             wrong++;
-            System.out.println(name + ": " + what + " answered " + got + ", due is " + due);
+            System.out.println(name + ": " + about + what + " answered " + got + ", due is " + due);
         }
     }
 

@@ -14,15 +14,15 @@ public final class ClassesTest {
 
     private static void certify() {
         Courtdocket court = Scene.claimed();
-        CHECK.index("claim 1", () -> court.certify(1));
-        CHECK.index("claim -1", () -> court.certify(-1));
+        CHECK.index("claim 1", court, () -> court.certify(1));
+        CHECK.index("claim -1", court, () -> court.certify(-1));
         court.certify(0);
-        CHECK.state("it is one", () -> court.certify(0));
+        CHECK.state("it is one", court, () -> court.certify(0));
         Courtdocket won = Scene.won(10);
-        CHECK.state("WON", () -> won.certify(0));
+        CHECK.state("WON", won, () -> won.certify(0));
         Courtdocket settled = Scene.claimed();
         settled.settle(0);
-        CHECK.state("SETTLED", () -> settled.certify(0));
+        CHECK.state("SETTLED", settled, () -> settled.certify(0));
         Courtdocket back = Scene.appealed(10);
         back.decide(0, 2, 10);
         back.certify(0);
@@ -32,14 +32,14 @@ public final class ClassesTest {
     private static void member() {
         Courtdocket court = Scene.opened();
         court.claim(0, 1, 0, 10);
-        CHECK.index("claim 1", () -> court.member(1, 0, true));
-        CHECK.index("claim -1", () -> court.member(-1, 0, true));
-        CHECK.index("person 16", () -> court.member(0, 16, true));
-        CHECK.index("person -1", () -> court.member(0, -1, true));
-        CHECK.state("no class", () -> court.member(0, 5, true));
+        CHECK.index("claim 1", court, () -> court.member(1, 0, true));
+        CHECK.index("claim -1", court, () -> court.member(-1, 0, true));
+        CHECK.index("person 16", court, () -> court.member(0, 16, true));
+        CHECK.index("person -1", court, () -> court.member(0, -1, true));
+        CHECK.state("no class", court, () -> court.member(0, 5, true));
         court.certify(0);
         CHECK.same("who claims is one", court.member(0, 1, true), 1);
-        CHECK.state("and stays", () -> court.member(0, 1, false));
+        CHECK.state("and stays", court, () -> court.member(0, 1, false));
         CHECK.same("15 comes in", court.member(0, 15, true), 2);
         CHECK.same("again", court.member(0, 15, true), 2);
         CHECK.same("0 comes in", court.member(0, 0, true), 3);
@@ -48,8 +48,8 @@ public final class ClassesTest {
         court.serve(0, 0);
         court.answer(0);
         court.judge(0, 5);
-        CHECK.state("not PENDING: in", () -> court.member(0, 15, true));
-        CHECK.state("not PENDING: out", () -> court.member(0, 0, false));
+        CHECK.state("not PENDING: in", court, () -> court.member(0, 15, true));
+        CHECK.state("not PENDING: out", court, () -> court.member(0, 0, false));
     }
 
     private static void share() {
@@ -65,10 +65,10 @@ public final class ClassesTest {
             court.answer(claim);
             court.judge(claim, 50);
         }
-        CHECK.index("claim 2", () -> court.share(2, 0));
-        CHECK.index("claim -1", () -> court.share(-1, 0));
-        CHECK.index("person 16", () -> court.share(0, 16));
-        CHECK.index("person -1", () -> court.share(0, -1));
+        CHECK.index("claim 2", court, () -> court.share(2, 0));
+        CHECK.index("claim -1", court, () -> court.share(-1, 0));
+        CHECK.index("person 16", court, () -> court.share(0, 16));
+        CHECK.index("person -1", court, () -> court.share(0, -1));
         CHECK.same("nothing is paid", court.share(0, 0), 0);
         court.pay(0, 11);
         court.pay(1, 50);

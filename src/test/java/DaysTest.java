@@ -19,11 +19,11 @@ public final class DaysTest {
         Courtdocket court = new Courtdocket();
         CHECK.same("new: today", court.today(), 0);
         CHECK.same("new: entries", court.entries(), 0);
-        CHECK.index("new: no case", () -> court.join(0, 0, 0));
-        CHECK.index("new: no claim", () -> court.stateOf(0));
-        CHECK.index("new: no entry", () -> court.counts(0));
-        CHECK.index("new: no hearing", () -> court.hearingAt(0));
-        CHECK.index("new: no exhibit", () -> court.isAdmitted(0));
+        CHECK.index("new: no case", court, () -> court.join(0, 0, 0));
+        CHECK.index("new: no claim", court, () -> court.stateOf(0));
+        CHECK.index("new: no entry", court, () -> court.counts(0));
+        CHECK.index("new: no hearing", court, () -> court.hearingAt(0));
+        CHECK.index("new: no exhibit", court, () -> court.isAdmitted(0));
         int[] days = {21, 14, 30, 14, 5};
         for (int rule = 0; rule < 5; rule++) {
             CHECK.same("new: rule " + rule, court.setRule(rule, 1, false), days[rule]);
@@ -34,40 +34,40 @@ public final class DaysTest {
     private static void pass() {
         Courtdocket court = new Courtdocket();
         for (int days : new int[] {0, 61, -1, Integer.MAX_VALUE, Integer.MIN_VALUE}) {
-            CHECK.argument("pass " + days, () -> court.pass(days));
+            CHECK.argument("pass " + days, court, () -> court.pass(days));
         }
         CHECK.same("pass 1", court.pass(1), 1);
         CHECK.same("pass 60", court.pass(60), 61);
         CHECK.same("today", court.today(), 61);
         Scene.pass(court, 900 - 61 - 10);
-        CHECK.state("pass above 900", () -> court.pass(11));
-        CHECK.argument("range ahead of the state", () -> court.pass(61));
+        CHECK.state("pass above 900", court, () -> court.pass(11));
+        CHECK.argument("range ahead of the state", court, () -> court.pass(61));
         CHECK.same("nothing passed", court.today(), 890);
         CHECK.same("pass to 900", court.pass(10), 900);
-        CHECK.state("pass behind 900", () -> court.pass(1));
+        CHECK.state("pass behind 900", court, () -> court.pass(1));
     }
 
     private static void holiday() {
         Courtdocket court = new Courtdocket();
-        CHECK.argument("holiday -1", () -> court.holiday(-1));
-        CHECK.argument("holiday 1001", () -> court.holiday(1001));
-        CHECK.argument("holiday MIN", () -> court.holiday(Integer.MIN_VALUE));
-        CHECK.state("holiday today", () -> court.holiday(0));
+        CHECK.argument("holiday -1", court, () -> court.holiday(-1));
+        CHECK.argument("holiday 1001", court, () -> court.holiday(1001));
+        CHECK.argument("holiday MIN", court, () -> court.holiday(Integer.MIN_VALUE));
+        CHECK.state("holiday today", court, () -> court.holiday(0));
         CHECK.same("a working day", court.holiday(1), true);
-        CHECK.state("a holiday", () -> court.holiday(1));
+        CHECK.state("a holiday", court, () -> court.holiday(1));
         CHECK.same("5 was free", court.holiday(5), false);
         CHECK.same("6 was free", court.holiday(6), false);
-        CHECK.state("5 is a holiday now", () -> court.holiday(5));
+        CHECK.state("5 is a holiday now", court, () -> court.holiday(5));
         CHECK.same("7 was not free", court.holiday(7), true);
         CHECK.same("1000 was free", court.holiday(1000), false);
         court.pass(10);
-        CHECK.state("behind us", () -> court.holiday(9));
-        CHECK.state("today 10", () -> court.holiday(10));
+        CHECK.state("behind us", court, () -> court.holiday(9));
+        CHECK.state("today 10", court, () -> court.holiday(10));
         for (int day = 11; day < 11 + 25; day++) {
             CHECK.same("holiday " + day, court.holiday(day), day % 7 < 5);
         }
-        CHECK.state("there are 30", () -> court.holiday(100));
-        CHECK.argument("range ahead of the state", () -> court.holiday(1001));
+        CHECK.state("there are 30", court, () -> court.holiday(100));
+        CHECK.argument("range ahead of the state", court, () -> court.holiday(1001));
     }
 
     private static void holidayMovesDeadlines() {
@@ -87,10 +87,10 @@ public final class DaysTest {
 
     private static void setRule() {
         Courtdocket court = new Courtdocket();
-        CHECK.index("rule -1", () -> court.setRule(-1, 5, true));
-        CHECK.index("rule 5", () -> court.setRule(5, 0, true));
-        CHECK.argument("days 0", () -> court.setRule(0, 0, true));
-        CHECK.argument("days 61", () -> court.setRule(0, 61, false));
+        CHECK.index("rule -1", court, () -> court.setRule(-1, 5, true));
+        CHECK.index("rule 5", court, () -> court.setRule(5, 0, true));
+        CHECK.argument("days 0", court, () -> court.setRule(0, 0, true));
+        CHECK.argument("days 61", court, () -> court.setRule(0, 61, false));
         CHECK.same("days before", court.setRule(0, 60, false), 21);
         CHECK.same("days before then", court.setRule(0, 1, true), 60);
         CHECK.same("rule 4", court.setRule(4, 1, true), 5);

@@ -30,13 +30,13 @@ public final class DeadlinesTest {
     private static void range() {
         Courtdocket court = Scene.moved();
         for (int sort : new int[] {-1, 4, Integer.MAX_VALUE}) {
-            CHECK.index("due of sort " + sort, () -> court.due(sort, 0));
-            CHECK.index("dueByDays of sort " + sort, () -> court.dueByDays(sort, 0));
+            CHECK.index("due of sort " + sort, court, () -> court.due(sort, 0));
+            CHECK.index("dueByDays of sort " + sort, court, () -> court.dueByDays(sort, 0));
         }
         int[][] wrong = {{0, 1}, {0, -1}, {1, 0}, {1, 2}, {1, -1}, {2, 1}, {2, -1}, {3, 2}, {3, -1}};
         for (int[] pair : wrong) {
-            CHECK.index("due of " + pair[0] + ", " + pair[1], () -> court.due(pair[0], pair[1]));
-            CHECK.index("dueByDays of " + pair[0] + ", " + pair[1], () -> court.dueByDays(pair[0], pair[1]));
+            CHECK.index("due of " + pair[0] + ", " + pair[1], court, () -> court.due(pair[0], pair[1]));
+            CHECK.index("dueByDays of " + pair[0] + ", " + pair[1], court, () -> court.dueByDays(pair[0], pair[1]));
         }
         due("no defect", court, 3, 0, -1);
         due("no defect of the MOTION", court, 3, 1, -1);
@@ -114,21 +114,21 @@ public final class DeadlinesTest {
 
     private static void stay() {
         Courtdocket court = Scene.opened();
-        CHECK.index("case 1", () -> court.stay(1, true));
-        CHECK.index("case -1", () -> court.stay(-1, true));
-        CHECK.state("not stayed", () -> court.stay(0, false));
+        CHECK.index("case 1", court, () -> court.stay(1, true));
+        CHECK.index("case -1", court, () -> court.stay(-1, true));
+        CHECK.state("not stayed", court, () -> court.stay(0, false));
         CHECK.same("STAY", court.stay(0, true), 0);
-        CHECK.state("stayed", () -> court.stay(0, true));
+        CHECK.state("stayed", court, () -> court.stay(0, true));
         court.pass(3);
         CHECK.same("LIFT", court.stay(0, false), 1);
-        CHECK.state("lifted", () -> court.stay(0, false));
+        CHECK.state("lifted", court, () -> court.stay(0, false));
         CHECK.same("STAY on that day", court.stay(0, true), 2);
         CHECK.same("the kind", court.entryAt(1, 0), 12);
         CHECK.same("the day", court.entryAt(1, 1), 3);
         CHECK.same("the case", court.entryAt(1, 2), 0);
         court.open(0);
         court.lead(1, 0);
-        CHECK.state("one that is led is not stayed itself", () -> court.stay(1, false));
+        CHECK.state("one that is led is not stayed itself", court, () -> court.stay(1, false));
         CHECK.same("so it can be", court.stay(1, true), 3);
     }
 
@@ -218,43 +218,43 @@ public final class DeadlinesTest {
         due("the last day that can be", court, 0, 0, 1400);
         CHECK.same("501 days", court.extend(0, 0, 1), -1);
         due("NONE", court, 0, 0, -1);
-        CHECK.state("no more", () -> court.extend(0, 0, 1));
+        CHECK.state("no more", court, () -> court.extend(0, 0, 1));
         CHECK.same("never behind it", court.answer(0), 1);
     }
 
     private static void extend() {
         Courtdocket court = Scene.claimed();
-        CHECK.index("sort -1", () -> court.extend(-1, 0, 1));
-        CHECK.index("sort 3", () -> court.extend(3, 0, 0));
-        CHECK.index("claim 1", () -> court.extend(0, 1, 1));
-        CHECK.index("claim -1 for an APPEAL", () -> court.extend(2, -1, 1));
-        CHECK.index("no entry", () -> court.extend(1, 0, 1));
-        CHECK.argument("days 0", () -> court.extend(0, 0, 0));
-        CHECK.argument("days 61", () -> court.extend(0, 0, 61));
-        CHECK.state("not served", () -> court.extend(0, 0, 1));
+        CHECK.index("sort -1", court, () -> court.extend(-1, 0, 1));
+        CHECK.index("sort 3", court, () -> court.extend(3, 0, 0));
+        CHECK.index("claim 1", court, () -> court.extend(0, 1, 1));
+        CHECK.index("claim -1 for an APPEAL", court, () -> court.extend(2, -1, 1));
+        CHECK.index("no entry", court, () -> court.extend(1, 0, 1));
+        CHECK.argument("days 0", court, () -> court.extend(0, 0, 0));
+        CHECK.argument("days 61", court, () -> court.extend(0, 0, 61));
+        CHECK.state("not served", court, () -> court.extend(0, 0, 1));
         court.serve(0, 0);
-        CHECK.index("a SERVE is no MOTION", () -> court.extend(1, 0, 1));
-        CHECK.index("a SERVE has no cure", () -> court.extend(3, 0, 1));
+        CHECK.index("a SERVE is no MOTION", court, () -> court.extend(1, 0, 1));
+        CHECK.index("a SERVE has no cure", court, () -> court.extend(3, 0, 1));
         CHECK.same("by 1", court.extend(0, 0, 1), 22);
         CHECK.same("by 2 more", court.extend(0, 0, 2), 24);
         court.pass(24);
         CHECK.same("on the last day", court.extend(0, 0, 4), 28);
         court.motion(0);
-        CHECK.state("a MOTION is open", () -> court.extend(0, 0, 1));
+        CHECK.state("a MOTION is open", court, () -> court.extend(0, 0, 1));
         CHECK.same("for a RESPONSE", court.extend(1, 1, 10), 49);
         court.respond(1);
         court.ruling(1, -1);
         due("begun anew: without what was added", court, 0, 0, 38);
         court.answer(0);
         CHECK.same("answered, not behind it", court.extend(0, 0, 4), 42);
-        CHECK.state("for an APPEAL, not WON", () -> court.extend(2, 0, 4));
+        CHECK.state("for an APPEAL, not WON", court, () -> court.extend(2, 0, 4));
         court.judge(0, 10);
         CHECK.same("for an APPEAL", court.extend(2, 0, 5), 59);
         court.appeal(0);
         court.decide(0, 0, 0);
         due("begun anew by the DECISION", court, 2, 0, 56);
         court.pass(33);
-        CHECK.state("behind it", () -> court.extend(2, 0, 60));
+        CHECK.state("behind it", court, () -> court.extend(2, 0, 60));
         CHECK.same("and no entry of it", court.entries(), 8);
     }
 
@@ -277,6 +277,6 @@ public final class DeadlinesTest {
         court.pass(8);
         due("still added", court, 0, 0, 28);
         court.pass(21);
-        CHECK.state("behind it", () -> court.extend(0, 0, 1));
+        CHECK.state("behind it", court, () -> court.extend(0, 0, 1));
     }
 }

@@ -20,18 +20,18 @@ public final class DefectsTest {
         court.ruling(1, -1);
         court.answer(0);
         court.judge(0, 10);
-        CHECK.index("entry 6", () -> court.defect(6));
-        CHECK.index("entry -1", () -> court.defect(-1));
-        CHECK.state("a SERVE", () -> court.defect(0));
-        CHECK.state("a RULING", () -> court.defect(3));
-        CHECK.state("a JUDGEMENT", () -> court.defect(5));
+        CHECK.index("entry 6", court, () -> court.defect(6));
+        CHECK.index("entry -1", court, () -> court.defect(-1));
+        CHECK.state("a SERVE", court, () -> court.defect(0));
+        CHECK.state("a RULING", court, () -> court.defect(3));
+        CHECK.state("a JUDGEMENT", court, () -> court.defect(5));
         CHECK.same("a MOTION: 5 working days", court.defect(1), 7);
         CHECK.same("a RESPONSE", court.defect(2), 7);
         court.pass(1);
         CHECK.same("an ANSWER", court.defect(4), 8);
-        CHECK.state("once", () -> court.defect(4));
+        CHECK.state("once", court, () -> court.defect(4));
         court.cure(4);
-        CHECK.state("once, cured or not", () -> court.defect(4));
+        CHECK.state("once, cured or not", court, () -> court.defect(4));
         CHECK.same("no entry is made", court.entries(), 6);
         court.stay(0, true);
         CHECK.same("of a stayed case", court.due(3, 1), -1);
@@ -42,8 +42,8 @@ public final class DefectsTest {
 
     private static void counts() {
         Courtdocket court = Scene.answered();
-        CHECK.index("entry 2", () -> court.counts(2));
-        CHECK.index("entry -1", () -> court.counts(-1));
+        CHECK.index("entry 2", court, () -> court.counts(2));
+        CHECK.index("entry -1", court, () -> court.counts(-1));
         CHECK.same("without a defect", court.counts(1), true);
         court.defect(1);
         CHECK.same("as long as it can be cured", court.counts(1), true);
@@ -53,7 +53,7 @@ public final class DefectsTest {
         court.pass(1);
         CHECK.same("behind it", court.counts(1), false);
         CHECK.same("answered no more", court.isAnswered(0), false);
-        CHECK.state("no JUDGEMENT", () -> court.judge(0, 10));
+        CHECK.state("no JUDGEMENT", court, () -> court.judge(0, 10));
         CHECK.same("another ANSWER", court.answer(0), 2);
         CHECK.same("a SERVE counts", court.counts(0), true);
         Courtdocket stayed = Scene.answered();
@@ -67,21 +67,21 @@ public final class DefectsTest {
 
     private static void cure() {
         Courtdocket court = Scene.answered();
-        CHECK.index("entry 2", () -> court.cure(2));
-        CHECK.index("entry -1", () -> court.cure(-1));
-        CHECK.state("no defect", () -> court.cure(1));
-        CHECK.state("of a SERVE", () -> court.cure(0));
+        CHECK.index("entry 2", court, () -> court.cure(2));
+        CHECK.index("entry -1", court, () -> court.cure(-1));
+        CHECK.state("no defect", court, () -> court.cure(1));
+        CHECK.state("of a SERVE", court, () -> court.cure(0));
         court.defect(1);
         court.pass(7);
         CHECK.same("on the last day", court.cure(1), true);
-        CHECK.state("cured", () -> court.cure(1));
+        CHECK.state("cured", court, () -> court.cure(1));
         court.pass(60);
         CHECK.same("counts for ever", court.counts(1), true);
         CHECK.same("its deadline is still told", court.due(3, 1), 7);
         Courtdocket late = Scene.answered();
         late.defect(1);
         late.pass(8);
-        CHECK.state("late", () -> late.cure(1));
+        CHECK.state("late", late, () -> late.cure(1));
     }
 
     private static void motionThatLapses() {
@@ -90,7 +90,7 @@ public final class DefectsTest {
         CHECK.same("open: no deadline for an ANSWER", court.due(0, 0), -1);
         court.pass(8);
         CHECK.same("not open: the old deadline", court.due(0, 0), 21);
-        CHECK.state("no RESPONSE to it", () -> court.respond(1));
+        CHECK.state("no RESPONSE to it", court, () -> court.respond(1));
         CHECK.same("another MOTION", court.motion(0), 2);
     }
 

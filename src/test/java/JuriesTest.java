@@ -26,30 +26,30 @@ public final class JuriesTest {
     private static void strike() {
         Courtdocket court = new Courtdocket();
         court.open(0);
-        CHECK.index("case 1", () -> court.strike(1, 0, 0));
-        CHECK.index("case -1", () -> court.strike(-1, 0, 0));
-        CHECK.index("side 2", () -> court.strike(0, 2, 0));
-        CHECK.index("side -1", () -> court.strike(0, -1, 0));
-        CHECK.index("juror 14", () -> court.strike(0, 0, 14));
-        CHECK.index("juror -1", () -> court.strike(0, 0, -1));
-        CHECK.state("the side 0 is first", () -> court.strike(0, 1, 0));
+        CHECK.index("case 1", court, () -> court.strike(1, 0, 0));
+        CHECK.index("case -1", court, () -> court.strike(-1, 0, 0));
+        CHECK.index("side 2", court, () -> court.strike(0, 2, 0));
+        CHECK.index("side -1", court, () -> court.strike(0, -1, 0));
+        CHECK.index("juror 14", court, () -> court.strike(0, 0, 14));
+        CHECK.index("juror -1", court, () -> court.strike(0, 0, -1));
+        CHECK.state("the side 0 is first", court, () -> court.strike(0, 1, 0));
         CHECK.same("the first", court.strike(0, 0, 13), 1);
-        CHECK.state("not again", () -> court.strike(0, 0, 12));
-        CHECK.state("struck", () -> court.strike(0, 1, 13));
+        CHECK.state("not again", court, () -> court.strike(0, 0, 12));
+        CHECK.state("struck", court, () -> court.strike(0, 1, 13));
         CHECK.same("the second", court.strike(0, 1, 0), 2);
         Courtdocket done = seated();
-        CHECK.state("all are done", () -> done.strike(0, 0, 0));
-        CHECK.state("for both sides", () -> done.strike(0, 1, 0));
-        CHECK.index("range ahead of the state", () -> done.strike(0, 0, 14));
+        CHECK.state("all are done", done, () -> done.strike(0, 0, 0));
+        CHECK.state("for both sides", done, () -> done.strike(0, 1, 0));
+        CHECK.index("range ahead of the state", done, () -> done.strike(0, 0, 14));
         CHECK.same("another case has its own pool", done.strike(1, 0, 1), 1);
     }
 
     private static void seat() {
         Courtdocket court = seated();
-        CHECK.index("case 2", () -> court.seat(2, 0));
-        CHECK.index("case -1", () -> court.seat(-1, 0));
-        CHECK.index("seat 7", () -> court.seat(0, 7));
-        CHECK.index("seat -1", () -> court.seat(0, -1));
+        CHECK.index("case 2", court, () -> court.seat(2, 0));
+        CHECK.index("case -1", court, () -> court.seat(-1, 0));
+        CHECK.index("seat 7", court, () -> court.seat(0, 7));
+        CHECK.index("seat -1", court, () -> court.seat(0, -1));
         int[] due = {0, 2, 4, 6, 8, 10, 12};
         for (int seat = 0; seat < 7; seat++) {
             CHECK.same("seat " + seat, court.seat(0, seat), due[seat]);
@@ -68,21 +68,21 @@ public final class JuriesTest {
 
     private static void dismiss() {
         Courtdocket court = seated();
-        CHECK.index("case 2", () -> court.dismiss(2, 0));
-        CHECK.index("case -1", () -> court.dismiss(-1, 0));
-        CHECK.index("juror 14", () -> court.dismiss(0, 14));
-        CHECK.index("juror -1", () -> court.dismiss(0, -1));
-        CHECK.state("struck", () -> court.dismiss(0, 1));
-        CHECK.state("an alternate", () -> court.dismiss(0, 12));
-        CHECK.state("no jury yet", () -> court.dismiss(1, 0));
+        CHECK.index("case 2", court, () -> court.dismiss(2, 0));
+        CHECK.index("case -1", court, () -> court.dismiss(-1, 0));
+        CHECK.index("juror 14", court, () -> court.dismiss(0, 14));
+        CHECK.index("juror -1", court, () -> court.dismiss(0, -1));
+        CHECK.state("struck", court, () -> court.dismiss(0, 1));
+        CHECK.state("an alternate", court, () -> court.dismiss(0, 12));
+        CHECK.state("no jury yet", court, () -> court.dismiss(1, 0));
         CHECK.same("the first alternate", court.dismiss(0, 4), 12);
         CHECK.same("in that seat", court.seat(0, 2), 12);
         CHECK.same("the next alternate", court.seat(0, 6), 13);
-        CHECK.state("gone", () -> court.dismiss(0, 4));
+        CHECK.state("gone", court, () -> court.dismiss(0, 4));
         CHECK.same("one that was an alternate", court.dismiss(0, 12), 13);
         CHECK.same("in that seat too", court.seat(0, 2), 13);
         CHECK.same("none is left", court.seat(0, 6), -1);
-        CHECK.state("so none goes", () -> court.dismiss(0, 0));
+        CHECK.state("so none goes", court, () -> court.dismiss(0, 0));
         CHECK.same("the others sit still", court.seat(0, 5), 10);
         Courtdocket ends = seated();
         CHECK.same("the first seat", ends.dismiss(0, 0), 12);

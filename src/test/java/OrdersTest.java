@@ -36,17 +36,17 @@ public final class OrdersTest {
 
     private static void ruling() {
         Courtdocket court = responded();
-        CHECK.index("entry 3", () -> court.ruling(3, 0));
-        CHECK.index("entry -1", () -> court.ruling(-1, 0));
-        CHECK.index("a RESPONSE", () -> court.ruling(2, 0));
-        CHECK.argument("-2", () -> court.ruling(1, -2));
-        CHECK.argument("not lesser", () -> court.ruling(1, 1000));
-        CHECK.argument("MAX", () -> court.ruling(1, Integer.MAX_VALUE));
+        CHECK.index("entry 3", court, () -> court.ruling(3, 0));
+        CHECK.index("entry -1", court, () -> court.ruling(-1, 0));
+        CHECK.index("a RESPONSE", court, () -> court.ruling(2, 0));
+        CHECK.argument("-2", court, () -> court.ruling(1, -2));
+        CHECK.argument("not lesser", court, () -> court.ruling(1, 1000));
+        CHECK.argument("MAX", court, () -> court.ruling(1, Integer.MAX_VALUE));
         CHECK.same("in part", court.ruling(1, 999), 3);
         CHECK.same("the lesser amount", court.amountOf(0), 999);
         state("in part", court, 0);
-        CHECK.state("ruled on", () -> court.ruling(1, 5));
-        CHECK.argument("range ahead of the state", () -> court.ruling(1, 999));
+        CHECK.state("ruled on", court, () -> court.ruling(1, 5));
+        CHECK.argument("range ahead of the state", court, () -> court.ruling(1, 999));
         Courtdocket granted = responded();
         CHECK.same("granted", granted.ruling(1, 0), 3);
         state("granted", granted, 1);
@@ -60,39 +60,39 @@ public final class OrdersTest {
         CHECK.same("at least 1", least.amountOf(0), 1);
         Courtdocket settled = responded();
         settled.settle(0);
-        CHECK.state("not PENDING", () -> settled.ruling(1, 0));
+        CHECK.state("not PENDING", settled, () -> settled.ruling(1, 0));
     }
 
     private static void rulingInTime() {
         Courtdocket court = Scene.moved();
-        CHECK.state("without a RESPONSE", () -> court.ruling(1, 0));
+        CHECK.state("without a RESPONSE", court, () -> court.ruling(1, 0));
         court.pass(14);
-        CHECK.state("on the last day for it", () -> court.ruling(1, 0));
+        CHECK.state("on the last day for it", court, () -> court.ruling(1, 0));
         court.pass(1);
         CHECK.same("behind it", court.ruling(1, 0), 2);
         Courtdocket lapsed = responded();
         lapsed.defect(2);
         lapsed.pass(8);
-        CHECK.state("a RESPONSE that counts no more", () -> lapsed.ruling(1, 0));
+        CHECK.state("a RESPONSE that counts no more", lapsed, () -> lapsed.ruling(1, 0));
         Courtdocket closed = responded();
         closed.defect(1);
         closed.pass(8);
-        CHECK.state("a MOTION that counts no more", () -> closed.ruling(1, 0));
+        CHECK.state("a MOTION that counts no more", closed, () -> closed.ruling(1, 0));
     }
 
     private static void judge() {
         Courtdocket court = Scene.served();
-        CHECK.index("claim 1", () -> court.judge(1, 0));
-        CHECK.index("claim -1", () -> court.judge(-1, 0));
-        CHECK.argument("-2", () -> court.judge(0, -2));
-        CHECK.argument("1001", () -> court.judge(0, 1001));
-        CHECK.state("not answered", () -> court.judge(0, 10));
+        CHECK.index("claim 1", court, () -> court.judge(1, 0));
+        CHECK.index("claim -1", court, () -> court.judge(-1, 0));
+        CHECK.argument("-2", court, () -> court.judge(0, -2));
+        CHECK.argument("1001", court, () -> court.judge(0, 1001));
+        CHECK.state("not answered", court, () -> court.judge(0, 10));
         court.answer(0);
         CHECK.same("judge", court.judge(0, 600), 2);
         state("WON", court, 2);
         CHECK.same("with this amount", court.amountOf(0), 600);
-        CHECK.state("WON already", () -> court.judge(0, 600));
-        CHECK.argument("above the amount now", () -> court.judge(0, 601));
+        CHECK.state("WON already", court, () -> court.judge(0, 600));
+        CHECK.argument("above the amount now", court, () -> court.judge(0, 601));
         Courtdocket nothing = Scene.answered();
         CHECK.same("0", nothing.judge(0, 0), 2);
         state("DISMISSED", nothing, 1);
@@ -106,28 +106,28 @@ public final class OrdersTest {
     private static void judgeByDefault() {
         Courtdocket court = Scene.served();
         court.pass(21);
-        CHECK.state("on the last day", () -> court.judge(0, -1));
+        CHECK.state("on the last day", court, () -> court.judge(0, -1));
         court.pass(1);
         CHECK.same("behind it", court.judge(0, -1), 1);
         state("WON", court, 2);
         CHECK.same("with its amount", court.amountOf(0), 1000);
         Courtdocket notServed = Scene.claimed();
         notServed.pass(60);
-        CHECK.state("not served", () -> notServed.judge(0, -1));
+        CHECK.state("not served", notServed, () -> notServed.judge(0, -1));
         Courtdocket answered = Scene.answered();
         answered.pass(60);
-        CHECK.state("answered", () -> answered.judge(0, -1));
+        CHECK.state("answered", answered, () -> answered.judge(0, -1));
         Courtdocket moved = Scene.moved();
         moved.pass(60);
-        CHECK.state("a MOTION is open", () -> moved.judge(0, -1));
+        CHECK.state("a MOTION is open", moved, () -> moved.judge(0, -1));
         moved.ruling(1, -1);
-        CHECK.state("a new deadline", () -> moved.judge(0, -1));
+        CHECK.state("a new deadline", moved, () -> moved.judge(0, -1));
         moved.pass(15);
         CHECK.same("behind that", moved.judge(0, -1), 3);
         Courtdocket stayed = Scene.served();
         stayed.stay(0, true);
         stayed.pass(60);
-        CHECK.state("no deadline while stayed", () -> stayed.judge(0, -1));
+        CHECK.state("no deadline while stayed", stayed, () -> stayed.judge(0, -1));
         Courtdocket lapsed = Scene.answered();
         lapsed.defect(1);
         lapsed.pass(22);
@@ -138,12 +138,12 @@ public final class OrdersTest {
         Courtdocket court = Scene.appealed(600);
         court.decide(0, 2, 300);
         CHECK.same("the amount ahead of the JUDGEMENT", court.amountOf(0), 1000);
-        CHECK.argument("above the amount", () -> court.judge(0, 1001));
-        CHECK.state("above the cap", () -> court.judge(0, 301));
+        CHECK.argument("above the amount", court, () -> court.judge(0, 1001));
+        CHECK.state("above the cap", court, () -> court.judge(0, 301));
         CHECK.same("up to the cap", court.judge(0, 300), 5);
         state("WON", court, 2);
         court.vacate(0);
-        CHECK.state("the cap holds still", () -> court.judge(0, 301));
+        CHECK.state("the cap holds still", court, () -> court.judge(0, 301));
         court.judge(0, 299);
         CHECK.same("299", court.amountOf(0), 299);
 
@@ -158,46 +158,46 @@ public final class OrdersTest {
         byDefault.appeal(0);
         byDefault.decide(0, 2, 0);
         CHECK.same("sent back: the amount ahead", byDefault.amountOf(0), 1000);
-        CHECK.state("a cap of 0", () -> byDefault.judge(0, -1));
+        CHECK.state("a cap of 0", byDefault, () -> byDefault.judge(0, -1));
 
         Courtdocket nothing = Scene.appealed(600);
         nothing.decide(0, 2, 0);
-        CHECK.state("a cap of 0, and 1", () -> nothing.judge(0, 1));
+        CHECK.state("a cap of 0, and 1", nothing, () -> nothing.judge(0, 1));
         nothing.judge(0, 0);
         state("a cap of 0, and 0", nothing, 1);
     }
 
     private static void vacate() {
         Courtdocket court = Scene.answered();
-        CHECK.index("claim 1", () -> court.vacate(1));
-        CHECK.index("claim -1", () -> court.vacate(-1));
-        CHECK.state("no order", () -> court.vacate(0));
+        CHECK.index("claim 1", court, () -> court.vacate(1));
+        CHECK.index("claim -1", court, () -> court.vacate(-1));
+        CHECK.state("no order", court, () -> court.vacate(0));
         court.judge(0, 600);
         CHECK.same("a JUDGEMENT", court.vacate(0), 3);
         state("vacated", court, 0);
         CHECK.same("its amount", court.amountOf(0), 1000);
         CHECK.same("its balance", court.balance(0), 0);
-        CHECK.state("not twice", () -> court.vacate(0));
+        CHECK.state("not twice", court, () -> court.vacate(0));
         court.judge(0, 0);
         court.vacate(0);
         state("a JUDGEMENT of 0", court, 0);
         court.judge(0, 700);
         court.appeal(0);
-        CHECK.state("an APPEAL", () -> court.vacate(0));
+        CHECK.state("an APPEAL", court, () -> court.vacate(0));
         court.decide(0, 0, 0);
-        CHECK.state("a DECISION", () -> court.vacate(0));
+        CHECK.state("a DECISION", court, () -> court.vacate(0));
         court.appeal(0);
         court.decide(0, 2, 500);
         court.judge(0, 400);
         court.vacate(0);
         state("sent back, judged, vacated", court, 0);
         CHECK.same("the amount then", court.amountOf(0), 1000);
-        CHECK.state("the DECISION is the latest", () -> court.vacate(0));
+        CHECK.state("the DECISION is the latest", court, () -> court.vacate(0));
         court.judge(0, 400);
         court.pay(0, 1);
-        CHECK.state("a PAY", () -> court.vacate(0));
+        CHECK.state("a PAY", court, () -> court.vacate(0));
         court.settle(0);
-        CHECK.state("a SETTLE", () -> court.vacate(0));
+        CHECK.state("a SETTLE", court, () -> court.vacate(0));
     }
 
     private static void vacateRuling() {
@@ -210,41 +210,41 @@ public final class OrdersTest {
         state("granted, vacated", court, 0);
         CHECK.same("the amount ahead of it", court.amountOf(0), 400);
         CHECK.same("its MOTION is not open", court.due(0, 0), 14);
-        CHECK.state("so it cannot be ruled on", () -> court.ruling(4, 0));
+        CHECK.state("so it cannot be ruled on", court, () -> court.ruling(4, 0));
         CHECK.same("the one ahead of it", court.vacate(0), 8);
         CHECK.same("the first amount", court.amountOf(0), 1000);
         CHECK.same("which it vacates", court.entryAt(8, 3), 3);
-        CHECK.state("none is left", () -> court.vacate(0));
+        CHECK.state("none is left", court, () -> court.vacate(0));
         Courtdocket denied = responded();
         denied.ruling(1, -1);
-        CHECK.state("a denied one", () -> denied.vacate(0));
+        CHECK.state("a denied one", denied, () -> denied.vacate(0));
         Courtdocket later = responded();
         later.ruling(1, 400);
         later.motion(0);
         later.respond(4);
         later.ruling(4, -1);
-        CHECK.state("the latest is denied", () -> later.vacate(0));
+        CHECK.state("the latest is denied", later, () -> later.vacate(0));
     }
 
     private static void appeal() {
         Courtdocket court = Scene.answered();
-        CHECK.index("claim 1", () -> court.appeal(1));
-        CHECK.index("claim -1", () -> court.appeal(-1));
-        CHECK.state("not WON", () -> court.appeal(0));
+        CHECK.index("claim 1", court, () -> court.appeal(1));
+        CHECK.index("claim -1", court, () -> court.appeal(-1));
+        CHECK.state("not WON", court, () -> court.appeal(0));
         court.judge(0, 600);
         CHECK.same("appeal", court.appeal(0), 3);
         state("APPEALED", court, 3);
         CHECK.same("no balance", court.balance(0), 0);
-        CHECK.state("twice at once", () -> court.appeal(0));
+        CHECK.state("twice at once", court, () -> court.appeal(0));
         Courtdocket last = Scene.won(600);
         last.pass(30);
         CHECK.same("on the last day", last.appeal(0), 3);
         Courtdocket late = Scene.won(600);
         late.pass(31);
-        CHECK.state("late", () -> late.appeal(0));
+        CHECK.state("late", late, () -> late.appeal(0));
         Courtdocket paid = Scene.won(600);
         paid.pay(0, 1);
-        CHECK.state("something is paid", () -> paid.appeal(0));
+        CHECK.state("something is paid", paid, () -> paid.appeal(0));
         Courtdocket again = Scene.appealed(600);
         again.pass(25);
         again.decide(0, 0, 0);
@@ -259,7 +259,7 @@ public final class OrdersTest {
         court.stay(0, false);
         court.appeal(0);
         court.decide(0, 0, 0);
-        CHECK.state("a third", () -> court.appeal(0));
+        CHECK.state("a third", court, () -> court.appeal(0));
         Courtdocket back = Scene.appealed(600);
         back.decide(0, 0, 0);
         back.appeal(0);
@@ -269,20 +269,20 @@ public final class OrdersTest {
         back.decide(0, 0, 0);
         CHECK.same("and once more", back.appeal(0), 10);
         back.decide(0, 0, 0);
-        CHECK.state("but not twice", () -> back.appeal(0));
+        CHECK.state("but not twice", back, () -> back.appeal(0));
     }
 
     private static void decide() {
         Courtdocket court = Scene.won(600);
-        CHECK.index("claim 1", () -> court.decide(1, 0, 0));
-        CHECK.index("claim -1", () -> court.decide(-1, 0, 0));
-        CHECK.argument("outcome -1", () -> court.decide(0, -1, 0));
-        CHECK.argument("outcome 3", () -> court.decide(0, 3, 0));
-        CHECK.argument("cap -1", () -> court.decide(0, 2, -1));
-        CHECK.argument("cap 601", () -> court.decide(0, 2, 601));
-        CHECK.state("not APPEALED", () -> court.decide(0, 0, 0));
+        CHECK.index("claim 1", court, () -> court.decide(1, 0, 0));
+        CHECK.index("claim -1", court, () -> court.decide(-1, 0, 0));
+        CHECK.argument("outcome -1", court, () -> court.decide(0, -1, 0));
+        CHECK.argument("outcome 3", court, () -> court.decide(0, 3, 0));
+        CHECK.argument("cap -1", court, () -> court.decide(0, 2, -1));
+        CHECK.argument("cap 601", court, () -> court.decide(0, 2, 601));
+        CHECK.state("not APPEALED", court, () -> court.decide(0, 0, 0));
         court.appeal(0);
-        CHECK.argument("cap above its amount now", () -> court.decide(0, 2, 601));
+        CHECK.argument("cap above its amount now", court, () -> court.decide(0, 2, 601));
         CHECK.same("affirms; the cap is not looked at", court.decide(0, 0, -7), 4);
         state("WON", court, 2);
         CHECK.same("its amount", court.amountOf(0), 600);
@@ -299,11 +299,11 @@ public final class OrdersTest {
 
     private static void settle() {
         Courtdocket court = Scene.claimed();
-        CHECK.index("claim 1", () -> court.settle(1));
-        CHECK.index("claim -1", () -> court.settle(-1));
+        CHECK.index("claim 1", court, () -> court.settle(1));
+        CHECK.index("claim -1", court, () -> court.settle(-1));
         CHECK.same("PENDING, not served", court.settle(0), 0);
         state("SETTLED", court, 4);
-        CHECK.state("twice", () -> court.settle(0));
+        CHECK.state("twice", court, () -> court.settle(0));
         Courtdocket won = Scene.won(5);
         won.settle(0);
         state("WON", won, 4);
@@ -313,35 +313,35 @@ public final class OrdersTest {
         state("APPEALED", appealed, 4);
         Courtdocket dismissed = Scene.answered();
         dismissed.judge(0, 0);
-        CHECK.state("DISMISSED", () -> dismissed.settle(0));
+        CHECK.state("DISMISSED", dismissed, () -> dismissed.settle(0));
         Courtdocket paid = Scene.won(5);
         paid.pay(0, 5);
-        CHECK.state("PAID", () -> paid.settle(0));
+        CHECK.state("PAID", paid, () -> paid.settle(0));
     }
 
     private static void pay() {
         Courtdocket court = Scene.won(600);
-        CHECK.index("claim 1", () -> court.pay(1, 1));
-        CHECK.index("claim -1", () -> court.pay(-1, 1));
-        CHECK.argument("0", () -> court.pay(0, 0));
-        CHECK.argument("1000000", () -> court.pay(0, 1000000));
-        CHECK.state("999999", () -> court.pay(0, 999999));
-        CHECK.state("above the balance", () -> court.pay(0, 601));
+        CHECK.index("claim 1", court, () -> court.pay(1, 1));
+        CHECK.index("claim -1", court, () -> court.pay(-1, 1));
+        CHECK.argument("0", court, () -> court.pay(0, 0));
+        CHECK.argument("1000000", court, () -> court.pay(0, 1000000));
+        CHECK.state("999999", court, () -> court.pay(0, 999999));
+        CHECK.state("above the balance", court, () -> court.pay(0, 601));
         CHECK.same("a part", court.pay(0, 599), 1);
         CHECK.same("balance", court.balance(0), 1);
         state("WON still", court, 2);
         CHECK.same("the rest", court.pay(0, 1), 0);
         state("PAID", court, 5);
         CHECK.same("no balance", court.balance(0), 0);
-        CHECK.state("nothing is left", () -> court.pay(0, 1));
+        CHECK.state("nothing is left", court, () -> court.pay(0, 1));
         Courtdocket pending = Scene.answered();
-        CHECK.state("PENDING", () -> pending.pay(0, 1));
-        CHECK.index("balance 1", () -> pending.balance(1));
-        CHECK.index("balance -1", () -> pending.balance(-1));
-        CHECK.index("stateOf 1", () -> pending.stateOf(1));
-        CHECK.index("stateOf -1", () -> pending.stateOf(-1));
-        CHECK.index("stateByDocket 1", () -> pending.stateByDocket(1));
-        CHECK.index("stateByDocket -1", () -> pending.stateByDocket(-1));
+        CHECK.state("PENDING", pending, () -> pending.pay(0, 1));
+        CHECK.index("balance 1", pending, () -> pending.balance(1));
+        CHECK.index("balance -1", pending, () -> pending.balance(-1));
+        CHECK.index("stateOf 1", pending, () -> pending.stateOf(1));
+        CHECK.index("stateOf -1", pending, () -> pending.stateOf(-1));
+        CHECK.index("stateByDocket 1", pending, () -> pending.stateByDocket(1));
+        CHECK.index("stateByDocket -1", pending, () -> pending.stateByDocket(-1));
     }
 
     private static void interest() {

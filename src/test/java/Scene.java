@@ -55,11 +55,66 @@ final class Scene {
         return court;
     }
 
+    /** The MOTION 1 of the claim, which is served, with the RESPONSE 2. */
+    static Courtdocket responded() {
+        Courtdocket court = moved();
+        court.respond(1);
+        return court;
+    }
+
+    /** The claim in a state, served and, but for PENDING and SETTLED, answered, over 600 if it was WON. */
+    static Courtdocket inState(int state) {
+        Courtdocket court = state == Courtdocket.PENDING || state == Courtdocket.SETTLED ? served() : answered();
+        if (state == Courtdocket.DISMISSED) {
+            court.judge(0, 0);
+        } else if (state == Courtdocket.SETTLED) {
+            court.settle(0);
+        } else if (state != Courtdocket.PENDING) {
+            court.judge(0, 600);
+        }
+        if (state == Courtdocket.APPEALED) {
+            court.appeal(0);
+        } else if (state == Courtdocket.PAID) {
+            court.pay(0, 600);
+        }
+        return court;
+    }
+
+    /** A new object on a day. */
+    static Courtdocket at(int day) {
+        Courtdocket court = new Courtdocket();
+        pass(court, day);
+        return court;
+    }
+
+    /** As many cases, of the judges 0, 1, 2, 0 and so on, without parties. */
+    static Courtdocket cases(int count) {
+        Courtdocket court = new Courtdocket();
+        for (int number = 0; number < count; number++) {
+            court.open(number % 3);
+        }
+        return court;
+    }
+
+    /** As many claims in the case 0, by the person 0 against 1, over 1000. */
+    static Courtdocket claims(int count) {
+        Courtdocket court = opened();
+        for (int claim = 0; claim < count; claim++) {
+            court.claim(0, 0, 1, 1000);
+        }
+        return court;
+    }
+
     /** Fills the docket with STAYs and LIFTs of the case 0; those that are made are the last. */
     static void fill(Courtdocket court) {
+        fill(court, 0, 160);
+    }
+
+    /** Brings the docket to a number of entries with STAYs and LIFTs of a case. */
+    static void fill(Courtdocket court, int number, int entries) {
         boolean isOn = true;
-        while (court.entries() < 160) {
-            court.stay(0, isOn);
+        for (int made = court.entries(); made < entries; made++) {
+            court.stay(number, isOn);
             isOn = !isOn;
         }
     }

@@ -18,14 +18,14 @@ public final class SealsTest {
     private static void range() {
         Courtdocket court = Scene.served();
         court.pass(3);
-        CHECK.index("seal 1", () -> court.seal(1, true));
-        CHECK.index("seal -1", () -> court.seal(-1, true));
-        CHECK.index("maySee 1", () -> court.maySee(1, 0, 0));
-        CHECK.index("maySee -1", () -> court.maySee(-1, 0, 0));
-        CHECK.index("person 16", () -> court.maySee(0, 16, 9));
-        CHECK.index("person -1", () -> court.maySee(0, -1, 0));
-        CHECK.argument("day -1", () -> court.maySee(0, 0, -1));
-        CHECK.argument("day 4", () -> court.maySee(0, 0, 4));
+        CHECK.index("seal 1", court, () -> court.seal(1, true));
+        CHECK.index("seal -1", court, () -> court.seal(-1, true));
+        CHECK.index("maySee 1", court, () -> court.maySee(1, 0, 0));
+        CHECK.index("maySee -1", court, () -> court.maySee(-1, 0, 0));
+        CHECK.index("person 16", court, () -> court.maySee(0, 16, 9));
+        CHECK.index("person -1", court, () -> court.maySee(0, -1, 0));
+        CHECK.argument("day -1", court, () -> court.maySee(0, 0, -1));
+        CHECK.argument("day 4", court, () -> court.maySee(0, 0, 4));
         CHECK.same("today", court.maySee(0, 9, 3), true);
         court.answer(0);
         CHECK.same("on its own day", court.maySee(1, 9, 3), true);
