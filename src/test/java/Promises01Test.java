@@ -386,6 +386,8 @@ public final class Promises01Test {
         court.join(0, 4, 0);
         check.state("from no party", court, () -> court.claim(0, 3, 1, 1));
         check.state("against no party", court, () -> court.claim(0, 0, 3, 1));
+        check.state("from the side 1 against no party", court, () -> court.claim(0, 1, 3, 1));
+        check.state("from no party against the side 0", court, () -> court.claim(0, 3, 0, 1));
         check.state("neither is one", court, () -> court.claim(0, 3, 5, 1));
         check.state("a party of another case", court, () -> court.claim(1, 3, 0, 1));
         check.state("both on the side 0", court, () -> court.claim(0, 0, 4, 1));

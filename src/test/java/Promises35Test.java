@@ -519,68 +519,90 @@ public final class Promises35Test {
 
     @Says(at = "Promise 50", value = "`sort`: 0 for an answer, 1 for a RESPONSE, 2 for an APPEAL, 3 for a cure")
     static void p50Sort0To3(Check check) {
+        sorts0To3(check, Courtdocket::due);
+    }
+
+    /** due, or dueByDays. */
+    private interface Deadline {
+        int of(Courtdocket court, int sort, int number);
+    }
+
+    private static void sorts0To3(Check check, Deadline due) {
         Courtdocket court = Scene.moved();
         court.setRule(4, 3, false);
         court.defect(1);
-        check.same("0, with a MOTION that is open", court.due(0, 0), -1);
-        check.same("1", court.due(1, 1), 14);
-        check.same("2", court.due(2, 0), -1);
-        check.same("3", court.due(3, 1), 3);
+        check.same("0, with a MOTION that is open", due.of(court, 0, 0), -1);
+        check.same("1", due.of(court, 1, 1), 14);
+        check.same("2", due.of(court, 2, 0), -1);
+        check.same("3", due.of(court, 3, 1), 3);
         court.pass(4);
-        check.same("0", court.due(0, 0), 21);
-        check.same("2, WON", Scene.won(5).due(2, 0), 30);
+        check.same("0", due.of(court, 0, 0), 21);
+        check.same("2, WON", due.of(Scene.won(5), 2, 0), 30);
     }
 
-    @Says(at = "Promise 50", value = "`number`: the claim; for 1 the entry of the MOTION, for 3 the entry")
-    static void p50TheClaimTheMotionOrTheEntry(Check check) {
+    private static void theClaimTheMotionOrTheEntry(Check check, Deadline due) {
         Courtdocket court = Scene.claims(2);
         court.serve(1, 0);
         court.pass(1);
         court.serve(0, 0);
-        check.same("the claim 0", court.due(0, 0), 22);
-        check.same("the claim 1", court.due(0, 1), 21);
+        check.same("the claim 0", due.of(court, 0, 0), 22);
+        check.same("the claim 1", due.of(court, 0, 1), 21);
         court.motion(0);
         court.pass(1);
         court.motion(1);
-        check.same("the MOTION 2", court.due(1, 2), 15);
-        check.same("the MOTION 3", court.due(1, 3), 16);
+        check.same("the MOTION 2", due.of(court, 1, 2), 15);
+        check.same("the MOTION 3", due.of(court, 1, 3), 16);
         court.defect(3);
-        check.same("the entry 3", court.due(3, 3), 9);
-        check.same("the entry 2", court.due(3, 2), -1);
+        check.same("the entry 3", due.of(court, 3, 3), 9);
+        check.same("the entry 2", due.of(court, 3, 2), -1);
+    }
+
+    private static void noneIfThereIsNone(Check check, Deadline due) {
+        Courtdocket court = Scene.claimed();
+        check.same("not served", due.of(court, 0, 0), -1);
+        check.same("not WON", due.of(court, 2, 0), -1);
+        court.serve(0, 0);
+        check.same("served", due.of(court, 0, 0), 21);
+        check.same("no defect", due.of(court, 3, 0), -1);
+        court.motion(0);
+        check.same("a MOTION is open", due.of(court, 0, 0), -1);
+        court.stay(0, true);
+        check.same("stayed", due.of(court, 1, 1), -1);
+        check.same("a defect while stayed", court.defect(1), -1);
+        check.same("a cure while stayed", due.of(court, 3, 1), -1);
+        court.stay(0, false);
+        check.same("a cure", due.of(court, 3, 1), 7);
+        check.same("of a LIFT", due.of(court, 3, 3), -1);
+    }
+
+    private static void noSuchDeadline(Check check, Deadline due) {
+        Courtdocket court = Scene.moved();
+        check.index("sort", court, 0, 3, sort -> due.of(court, sort, 0));
+        Limits.noSuch(check, "claim for an answer", court, 1, (on, number) -> due.of(on, 0, number));
+        Limits.noSuch(check, "claim for an APPEAL", court, 1, (on, number) -> due.of(on, 2, number));
+        Limits.noSuch(check, "entry for a RESPONSE", court, 2, (on, number) -> due.of(on, 1, number));
+        Limits.noSuch(check, "entry for a cure", court, 2, (on, number) -> due.of(on, 3, number));
+        check.index("no MOTION, but a SERVE", court, () -> due.of(court, 1, 0));
+        court.stay(0, true);
+        check.index("no MOTION, but a STAY", court, () -> due.of(court, 1, 2));
+        check.same("a STAY has no cure", due.of(court, 3, 2), -1);
+    }
+
+    @Says(at = "Promise 50", value = "`number`: the claim; for 1 the entry of the MOTION, for 3 the entry")
+    static void p50TheClaimTheMotionOrTheEntry(Check check) {
+        theClaimTheMotionOrTheEntry(check, Courtdocket::due);
     }
 
     @Says(at = "Promise 50", value = "Returns the day; NONE if there is none, or it has not begun.")
     static void p50NoneIfThereIsNone(Check check) {
-        Courtdocket court = Scene.claimed();
-        check.same("not served", court.due(0, 0), -1);
-        check.same("not WON", court.due(2, 0), -1);
-        court.serve(0, 0);
-        check.same("served", court.due(0, 0), 21);
-        check.same("no defect", court.due(3, 0), -1);
-        court.motion(0);
-        check.same("a MOTION is open", court.due(0, 0), -1);
-        court.stay(0, true);
-        check.same("stayed", court.due(1, 1), -1);
-        check.same("a cure while stayed", court.defect(1), -1);
-        court.stay(0, false);
-        check.same("a cure", court.due(3, 1), 7);
-        check.same("of a LIFT", court.due(3, 3), -1);
+        noneIfThereIsNone(check, Courtdocket::due);
     }
 
     @Says(at = "Promise 50",
         value = "Throws `IndexOutOfBoundsException` if sort is out of range, or there is no such claim, MOTION or "
             + "entry")
     static void p50NoSuchSortClaimMotionOrEntry(Check check) {
-        Courtdocket court = Scene.moved();
-        check.index("sort", court, 0, 3, sort -> court.due(sort, 0));
-        Limits.noSuch(check, "claim for an answer", court, 1, (on, number) -> on.due(0, number));
-        Limits.noSuch(check, "claim for an APPEAL", court, 1, (on, number) -> on.due(2, number));
-        Limits.noSuch(check, "entry for a RESPONSE", court, 2, (on, number) -> on.due(1, number));
-        Limits.noSuch(check, "entry for a cure", court, 2, (on, number) -> on.due(3, number));
-        check.index("no MOTION, but a SERVE", court, () -> court.due(1, 0));
-        court.stay(0, true);
-        check.index("no MOTION, but a STAY", court, () -> court.due(1, 2));
-        check.same("a STAY has no cure", court.due(3, 2), -1);
+        noSuchDeadline(check, Courtdocket::due);
     }
 
     @Says(at = "Promise 51", value = "Returns the same, by going on day by day, and looking at each day anew.")
@@ -619,58 +641,22 @@ public final class Promises35Test {
 
     @Says(at = "Promise 51", value = "`sort`: 0 to 3")
     static void p51Sort0To3(Check check) {
-        Courtdocket court = Scene.moved();
-        court.defect(1);
-        check.same("0, with a MOTION that is open", court.dueByDays(0, 0), -1);
-        check.same("1", court.dueByDays(1, 1), 14);
-        check.same("2", court.dueByDays(2, 0), -1);
-        check.same("3", court.dueByDays(3, 1), 7);
-        check.same("0", Scene.served().dueByDays(0, 0), 21);
-        check.same("2, WON", Scene.won(5).dueByDays(2, 0), 30);
+        sorts0To3(check, Courtdocket::dueByDays);
     }
 
     @Says(at = "Promise 51", value = "`number`: as for due()")
     static void p51NumberAsForDue(Check check) {
-        Courtdocket court = Scene.claims(2);
-        court.serve(1, 0);
-        court.pass(1);
-        court.serve(0, 0);
-        check.same("the claim 0", court.dueByDays(0, 0), 22);
-        check.same("the claim 1", court.dueByDays(0, 1), 21);
-        court.motion(0);
-        court.pass(1);
-        court.motion(1);
-        check.same("the MOTION 2", court.dueByDays(1, 2), 15);
-        check.same("the MOTION 3", court.dueByDays(1, 3), 16);
-        court.defect(3);
-        check.same("the entry 3", court.dueByDays(3, 3), 9);
-        check.same("the entry 2", court.dueByDays(3, 2), -1);
+        theClaimTheMotionOrTheEntry(check, Courtdocket::dueByDays);
     }
 
     @Says(at = "Promise 51", value = "Returns the day; NONE likewise.")
     static void p51NoneLikewise(Check check) {
-        Courtdocket court = Scene.claimed();
-        check.same("not served", court.dueByDays(0, 0), -1);
-        check.same("not WON", court.dueByDays(2, 0), -1);
-        court.serve(0, 0);
-        check.same("no defect", court.dueByDays(3, 0), -1);
-        court.motion(0);
-        check.same("a MOTION is open", court.dueByDays(0, 0), -1);
-        court.defect(1);
-        court.stay(0, true);
-        check.same("stayed: a RESPONSE", court.dueByDays(1, 1), -1);
-        check.same("stayed: a cure", court.dueByDays(3, 1), -1);
+        noneIfThereIsNone(check, Courtdocket::dueByDays);
     }
 
     @Says(at = "Promise 51", value = "Throws `IndexOutOfBoundsException` likewise")
     static void p51ThrowsLikewise(Check check) {
-        Courtdocket court = Scene.moved();
-        check.index("sort", court, 0, 3, sort -> court.dueByDays(sort, 0));
-        Limits.noSuch(check, "claim for an answer", court, 1, (on, number) -> on.dueByDays(0, number));
-        Limits.noSuch(check, "claim for an APPEAL", court, 1, (on, number) -> on.dueByDays(2, number));
-        Limits.noSuch(check, "entry for a RESPONSE", court, 2, (on, number) -> on.dueByDays(1, number));
-        Limits.noSuch(check, "entry for a cure", court, 2, (on, number) -> on.dueByDays(3, number));
-        check.index("no MOTION, but a SERVE", court, () -> court.dueByDays(1, 0));
+        noSuchDeadline(check, Courtdocket::dueByDays);
     }
 
     @Says(at = "Promise 52", value = "Returns 10 times its day, and its slot, together.")

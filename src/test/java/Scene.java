@@ -80,6 +80,27 @@ final class Scene {
         return court;
     }
 
+    /**
+     * Makes 14 entries, of every kind, of a claim over more than 500 that is not served, and of a case: SERVE, MOTION,
+     * RESPONSE, RULING, ANSWER, JUDGEMENT, VACATE, JUDGEMENT, APPEAL, DECISION, PAY, SETTLE, STAY and LIFT.
+     */
+    static void everyKind(Courtdocket court, int claim, int number) {
+        court.serve(claim, 0);
+        int motion = court.motion(claim);
+        court.respond(motion);
+        court.ruling(motion, 500);
+        court.answer(claim);
+        court.judge(claim, 400);
+        court.vacate(claim);
+        court.judge(claim, 300);
+        court.appeal(claim);
+        court.decide(claim, 0, 0);
+        court.pay(claim, 10);
+        court.settle(claim);
+        court.stay(number, true);
+        court.stay(number, false);
+    }
+
     /** A new object on a day. */
     static Courtdocket at(int day) {
         Courtdocket court = new Courtdocket();

@@ -123,18 +123,8 @@ public final class TermsEntriesTest {
         value = "Kinds are 0 SERVE, 1 ANSWER, 2 MOTION, 3 RESPONSE, 4 RULING, 5 JUDGEMENT, 6 VACATE, 7 APPEAL, 8 "
             + "DECISION, 9 SETTLE, 10 PAY, 11 STAY, 12 LIFT.")
     static void kindsAre0To12(Check check) {
-        Courtdocket court = Scene.responded();
-        court.ruling(1, 500);
-        court.answer(0);
-        court.judge(0, 400);
-        court.vacate(0);
-        court.judge(0, 300);
-        court.appeal(0);
-        court.decide(0, 0, 0);
-        court.pay(0, 10);
-        court.settle(0);
-        court.stay(0, true);
-        court.stay(0, false);
+        Courtdocket court = Scene.claimed();
+        Scene.everyKind(court, 0, 0);
         int[] kinds = {0, 2, 3, 4, 1, 5, 6, 5, 7, 8, 10, 9, 11, 12};
         for (int entry = 0; entry < kinds.length; entry++) {
             check.same("the kind of the entry " + entry, court.entryAt(entry, 0), kinds[entry]);
@@ -344,6 +334,32 @@ public final class TermsEntriesTest {
         check.same("another MOTION has none", two.respond(3), 5);
     }
 
+    /** The MOTION 2 of the claim 1, without a RESPONSE; the parts of other entries are the number 2, too. */
+    private static Courtdocket movedAmongTwos() {
+        Courtdocket court = Scene.claims(5);
+        court.serve(0, 0);
+        court.serve(1, 0);
+        court.motion(1);
+        court.serve(2, 2);
+        court.answer(0);
+        court.judge(0, 2);
+        court.serve(3, 0);
+        court.answer(3);
+        court.judge(3, 30);
+        court.pay(3, 2);
+        court.appeal(0);
+        court.decide(0, 2, 2);
+        return court;
+    }
+
+    @Says(at = "The docket", value = "has none that counts, and today is not behind its deadline.")
+    static void aResponseIsNoOtherEntry(Check check) {
+        Courtdocket court = movedAmongTwos();
+        check.state("no RULING without a RESPONSE", court, () -> court.ruling(2, -1));
+        check.same("so it can have one", court.respond(2), court.entries() - 1);
+        check.state("it has one then", court, () -> court.respond(2));
+    }
+
     @Says(at = "The docket", value = "has none that counts, and today is not behind its deadline.")
     static void responseInTime(Check check) {
         Courtdocket last = Scene.moved();
@@ -368,18 +384,8 @@ public final class TermsEntriesTest {
 
     @Says(at = "The docket", value = "An entry that was made is valid")
     static void whatWasMadeIsValid(Check check) {
-        Courtdocket court = Scene.responded();
-        court.ruling(1, 500);
-        court.answer(0);
-        court.judge(0, 400);
-        court.vacate(0);
-        court.judge(0, 300);
-        court.appeal(0);
-        court.decide(0, 0, 0);
-        court.pay(0, 10);
-        court.settle(0);
-        court.stay(0, true);
-        court.stay(0, false);
+        Courtdocket court = Scene.claimed();
+        Scene.everyKind(court, 0, 0);
         court.pass(60);
         for (int entry = 0; entry < court.entries(); entry++) {
             check.same("the entry " + entry + " counts", court.counts(entry), true);
@@ -405,18 +411,8 @@ public final class TermsEntriesTest {
 
     @Says(at = "The docket", value = "but an ANSWER, a MOTION or a RESPONSE can get a defect, once")
     static void noDefectOfOthers(Check check) {
-        Courtdocket court = Scene.responded();
-        court.ruling(1, 500);
-        court.answer(0);
-        court.judge(0, 400);
-        court.vacate(0);
-        court.judge(0, 300);
-        court.appeal(0);
-        court.decide(0, 0, 0);
-        court.pay(0, 10);
-        court.settle(0);
-        court.stay(0, true);
-        court.stay(0, false);
+        Courtdocket court = Scene.claimed();
+        Scene.everyKind(court, 0, 0);
         for (int entry : new int[] {0, 3, 5, 6, 7, 8, 9, 10, 11, 12, 13}) {
             check.state("the kind " + court.entryAt(entry, 0), court, () -> court.defect(entry));
         }

@@ -180,20 +180,7 @@ public final class TermsExhibitsTest {
         Courtdocket court = Scene.claims(2);
         court.open(1);
         court.join(1, 9, 0);
-        court.serve(1, 0);
-        court.motion(1);
-        court.respond(1);
-        court.ruling(1, 500);
-        court.answer(1);
-        court.judge(1, 400);
-        court.vacate(1);
-        court.judge(1, 300);
-        court.appeal(1);
-        court.decide(1, 0, 0);
-        court.pay(1, 10);
-        court.settle(1);
-        court.stay(1, true);
-        court.stay(1, false);
+        Scene.everyKind(court, 1, 1);
         for (int entry = 0; entry < court.entries(); entry++) {
             court.seal(entry, true);
             boolean isOfCase1 = entry >= 12;
