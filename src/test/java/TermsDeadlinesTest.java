@@ -118,6 +118,46 @@ public final class TermsDeadlinesTest {
         due(check, "the rule of the defect", court, 3, 1, 8);
     }
 
+    /** Sets other days, other sorts of days, and both, which must not move a deadline; puts the rule back. */
+    private static void held(Check check, String what, Courtdocket court, int rule, int sort, int number, int due) {
+        boolean isWorking = rule == 4;
+        due(check, what, court, sort, number, due);
+        int days = court.setRule(rule, 40, isWorking);
+        due(check, what + ", 40 days later", court, sort, number, due);
+        court.setRule(rule, 1, !isWorking);
+        due(check, what + ", 1 day of the other sort later", court, sort, number, due);
+        court.setRule(rule, days, !isWorking);
+        due(check, what + ", as many of the other sort later", court, sort, number, due);
+        court.setRule(rule, days, isWorking);
+    }
+
+    @Says(at = "Deadlines",
+        value = "Of each deadline the rule counts that was in force when the entry was made, or the defect told, with "
+            + "which it begins.")
+    static void noLaterRuleCounts(Check check) {
+        Courtdocket court = Scene.served();
+        held(check, "the SERVE", court, 0, 0, 0, 21);
+        court.motion(0);
+        held(check, "the MOTION", court, 1, 1, 1, 14);
+        court.respond(1);
+        court.ruling(1, 500);
+        held(check, "the RULING", court, 3, 0, 0, 14);
+        court.vacate(0);
+        held(check, "the VACATE", court, 3, 0, 0, 14);
+        court.answer(0);
+        held(check, "answered", court, 0, 0, 0, 14);
+        court.defect(5);
+        held(check, "the defect", court, 4, 3, 5, 7);
+        court.judge(0, 300);
+        held(check, "the JUDGEMENT", court, 2, 2, 0, 30);
+        court.appeal(0);
+        court.pass(1);
+        court.decide(0, 0, 0);
+        held(check, "the DECISION", court, 2, 2, 0, 31);
+        court.pass(6);
+        check.same("it can be cured still", court.cure(5), true);
+    }
+
     // ---- how days count
 
     @Says(at = "Deadlines",

@@ -334,6 +334,28 @@ public final class TermsEntriesTest {
         check.same("another MOTION has none", two.respond(3), 5);
     }
 
+    @Says(at = "The docket", value = "has none that counts, and today is not behind its deadline.")
+    static void aResponseIsToOneOfTwoOpenMotions(Check check) {
+        // The first MOTION counts again behind the second one, as its case is led by one that was stayed.
+        Courtdocket court = Scene.moved();
+        court.open(1);
+        court.stay(1, true);
+        court.defect(1);
+        court.pass(8);
+        court.motion(0);
+        court.lead(0, 1);
+        check.state("the second one is open", court, () -> court.motion(0));
+        check.same("the first one is open again", court.respond(1), 4);
+        check.state("no RULING on the second one", court, () -> court.ruling(3, -1));
+        check.same("which has no RESPONSE yet", court.respond(3), 5);
+        check.same("a RULING on it then", court.ruling(3, -1), 6);
+        check.same("the first one is open still", court.due(0, 0), -1);
+        check.state("so there is no ANSWER", court, () -> court.answer(0));
+        check.same("a RULING on the first one", court.ruling(1, -1), 7);
+        check.same("stayed without an end: no deadline", court.due(0, 0), -1);
+        check.same("an ANSWER then", court.answer(0), 8);
+    }
+
     /** The MOTION 2 of the claim 1, without a RESPONSE; the parts of other entries are the number 2, too. */
     private static Courtdocket movedAmongTwos() {
         Courtdocket court = Scene.claims(5);
