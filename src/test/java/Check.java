@@ -29,6 +29,10 @@ final class Check {
         count(got == due, what, String.valueOf(got), String.valueOf(due));
     }
 
+    void same(String what, String got, String due) {
+        count(got.equals(due), what, got, due);
+    }
+
     /** No such case, claim, entry and so on. */
     void index(String what, Courtdocket court, Call call) {
         refused(what, court, call, "IndexOutOfBoundsException");

@@ -7,19 +7,20 @@ import java.util.LinkedHashMap;
 import java.util.List;
 import java.util.Map;
 
-/** What the tests quote stands in the document, and of each sentence that names a boundary some test quotes words. */
+/** What the tests quote stands in the document, and some test quotes words of each sentence of terms and promises. */
 public final class DocumentTest {
     private static final Class<?>[] TESTS = {
         TermsDaysTest.class, TermsCasesTest.class, TermsEntriesTest.class, TermsOrdersTest.class,
         TermsPaymentsTest.class, TermsDeadlinesTest.class, TermsHearingsTest.class, TermsExhibitsTest.class,
         Promises01Test.class, Promises10Test.class, Promises16Test.class, Promises25Test.class, Promises35Test.class,
+        Calls01Test.class, Calls25Test.class,
     };
     /** A heading that the document does not mark as one. */
     private static final String CASES = "Cases, parties, claims";
     private static final List<String> TERMS = List.of("Terms", "Days", CASES, "The docket", "Deadlines", "Hearings",
         "Juries", "Exhibits", "Seals", "Classes");
-    /** Words of a sentence that names a boundary. */
-    private static final String BOUNDARY = ".*([0-9]|NONE|first|last|most|least|only|once|none|no ).*";
+    /** What stands ahead of the first sentence of a promise. */
+    private static final String SIGNATURE = "^`[^`]*\\([^`]*`: ";
 
     /** The sentences under each heading. */
     private final Map<String, List<String>> document = new LinkedHashMap<>();
@@ -75,7 +76,8 @@ public final class DocumentTest {
     private void split(String heading, StringBuilder text) {
         for (String sentence : text.toString().split("(?<=\\.) (?=[A-Z])")) {
             if (!sentence.isBlank()) {
-                document.computeIfAbsent(heading, key -> new ArrayList<>()).add(sentence.trim().replaceAll("^- ", ""));
+                document.computeIfAbsent(heading, key -> new ArrayList<>())
+                    .add(sentence.trim().replaceAll("^- ", "").replaceAll(SIGNATURE, ""));
             }
         }
         text.setLength(0);
@@ -101,7 +103,7 @@ public final class DocumentTest {
         for (Map.Entry<String, List<String>> entry : document.entrySet()) {
             for (String sentence : entry.getValue()) {
                 List<String> names = quoting(sentence, tests.getOrDefault(entry.getKey(), List.of()));
-                if (isBoundary(entry.getKey(), sentence) && names.isEmpty()) {
+                if (isToBeTested(entry.getKey(), sentence) && names.isEmpty()) {
                     tell("no test quotes, at", entry.getKey(), sentence);
                 }
                 if (isTold) {
@@ -111,11 +113,10 @@ public final class DocumentTest {
         }
     }
 
-    private static boolean isBoundary(String heading, String sentence) {
-        boolean isFace = sentence.matches("`[^`]*\\(.*") || sentence.contains("the interface says");
-        boolean isPromise = heading.startsWith("Promise ");
-        boolean isTold = sentence.startsWith("Throws") || sentence.startsWith("Returns whether");
-        return !isFace && (isPromise || TERMS.contains(heading)) && (isTold || sentence.matches(BOUNDARY));
+    /** What the interface says ahead of its calls is looked at by SourceTest. */
+    private static boolean isToBeTested(String heading, String sentence) {
+        boolean isMeant = heading.startsWith("Promise ") || TERMS.contains(heading);
+        return isMeant && !sentence.contains("the interface says");
     }
 
     private static List<String> quoting(String sentence, List<Method> tests) {

@@ -140,6 +140,59 @@ final class Scene {
         }
     }
 
+    /**
+     * The cases 0 and 1 of the judges 0 and 1, each with the person 0 on the side 0 and the persons 1 and 2 on the
+     * side 1; the claims 0 and 1 in the case 0, and the claim 2 in the case 1, by the person 0 against 1, over 1000.
+     */
+    static Courtdocket threeClaims() {
+        Courtdocket court = cases(2);
+        for (int number = 0; number < 2; number++) {
+            court.join(number, 0, 0);
+            court.join(number, 1, 1);
+            court.join(number, 2, 1);
+        }
+        court.claim(0, 0, 1, 1000);
+        court.claim(0, 0, 1, 1000);
+        court.claim(1, 0, 1, 1000);
+        return court;
+    }
+
+    /** The same, each served: the entries 0 to 2. */
+    static Courtdocket threeServed() {
+        Courtdocket court = threeClaims();
+        for (int claim = 0; claim < 3; claim++) {
+            court.serve(claim, 0);
+        }
+        return court;
+    }
+
+    /** The same, each with a MOTION: the entries 3 to 5. */
+    static Courtdocket threeMoved() {
+        Courtdocket court = threeServed();
+        for (int claim = 0; claim < 3; claim++) {
+            court.motion(claim);
+        }
+        return court;
+    }
+
+    /** The three claims served and answered: the entries 3 to 5 answer them. */
+    static Courtdocket threeAnswered() {
+        Courtdocket court = threeServed();
+        for (int claim = 0; claim < 3; claim++) {
+            court.answer(claim);
+        }
+        return court;
+    }
+
+    /** The same, each WON over 600: the entries 6 to 8. */
+    static Courtdocket threeWon() {
+        Courtdocket court = threeAnswered();
+        for (int claim = 0; claim < 3; claim++) {
+            court.judge(claim, 600);
+        }
+        return court;
+    }
+
     static void pass(Courtdocket court, int days) {
         int left = days;
         while (left > 0) {
